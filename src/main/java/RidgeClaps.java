@@ -516,7 +516,21 @@ public final class RidgeClaps {
         if (!kept) {
             return NO;
         }
-        return firstUntrue(n, numbers);
+        trial.become(image);
+        ways.weigh(trial);
+        int right = 0;
+        for (int i = 0; i < n && trial.minute < LAST_MINUTE; i++) {
+            passBestMinute(trial);
+            if (!isWaiting(right, numbers, trial.met)) {
+                return 1 + right;
+            }
+            right++;
+            if (!isWaiting(right, numbers, trial.struck)) {
+                return 1 + right;
+            }
+            right++;
+        }
+        return right == numbers ? 0 : 1 + right;
     }
 
     public int keep() {
@@ -560,25 +574,7 @@ public final class RidgeClaps {
         gone.passMinute(step);
     }
 
-    /** 0, or 1 and the place of the first waiting number that is not as THE MINUTES TOLD. */
-    private int firstUntrue(int n, int numbers) {
-        trial.become(image);
-        ways.weigh(trial);
-        int right = 0;
-        for (int i = 0; i < n && trial.minute < LAST_MINUTE; i++) {
-            passBestMinute(trial);
-            if (!isWaiting(right, numbers, trial.met)) {
-                return 1 + right;
-            }
-            right++;
-            if (!isWaiting(right, numbers, trial.struck)) {
-                return 1 + right;
-            }
-            right++;
-        }
-        return right == numbers ? 0 : 1 + right;
-    }
-
+    /** numbers: how many waited when the call came. */
     private boolean isWaiting(int at, int numbers, int v) {
         return at < numbers && at < MOST_WAITING && waiting[at] == v;
     }
@@ -760,7 +756,7 @@ public final class RidgeClaps {
         int passMinute(int step) {
             int faced = 0;
             if (has(party)) {
-                faced = dangerOf(party, 0);
+                faced = riskOf(party) * oddsIn(0);
                 met += faced;
                 if (draw() % 10000 < faced) {
                     struck++;
@@ -1012,7 +1008,7 @@ public final class RidgeClaps {
                 int code = codes[i];
                 if (code == -'!') {
                     if (top >= 1) {
-                        stack[top - 1] = truth(stack[top - 1] == 0);
+                        stack[top - 1] = stack[top - 1] == 0 ? 1 : 0;
                     }
                 } else if (code < -3) {
                     if (top >= 2) {
@@ -1036,20 +1032,16 @@ public final class RidgeClaps {
 
         private static int worked(int sign, int left, int right) {
             switch (sign) {
-                case '|': return truth(left != 0 || right != 0);
-                case '&': return truth(left != 0 && right != 0);
-                case '<': return truth(left < right);
-                case '=': return truth(left == right);
-                case '>': return truth(left > right);
+                case '|': return left != 0 || right != 0 ? 1 : 0;
+                case '&': return left != 0 && right != 0 ? 1 : 0;
+                case '<': return left < right ? 1 : 0;
+                case '=': return left == right ? 1 : 0;
+                case '>': return left > right ? 1 : 0;
                 case '+': return left + right;
                 case '-': return left - right;
                 case '*': return left * right;
                 default: return right == 0 ? 0 : left / right;
             }
-        }
-
-        private static int truth(boolean b) {
-            return b ? 1 : 0;
         }
     }
 
@@ -1142,10 +1134,8 @@ public final class RidgeClaps {
         }
 
         private void readPiece() {
-            if (sort == DIGITS) {
-                readNumber();
-            } else if (sort == LETTERS) {
-                readName();
+            if (sort == DIGITS || sort == LETTERS) {
+                readLeaf();
             } else if (signHere() == '!') {
                 readNot();
             } else if (signHere() == '(') {
@@ -1155,25 +1145,33 @@ public final class RidgeClaps {
             }
         }
 
-        private void readNumber() {
-            if (end - start > MOST_DIGITS) {
+        private void readLeaf() {
+            int code = sort == DIGITS ? numberHere() : nameHere();
+            if (code == NONE) {
                 setFault();
                 return;
+            }
+            leaves++;
+            putCode(code);
+            moveOn();
+        }
+
+        /** NONE: it has too many digits. */
+        private int numberHere() {
+            if (end - start > MOST_DIGITS) {
+                return NONE;
             }
             int number = 0;
             for (int i = start; i < end; i++) {
                 number = number * 10 + bytes[i] - '0';
             }
-            putLeaf(number);
+            return number;
         }
 
-        private void readName() {
+        /** NONE: it is no NAME of this KEY. */
+        private int nameHere() {
             int index = end - start == 1 ? namesOf(key).indexOf((char) bytes[start]) : -1;
-            if (index < 0) {
-                setFault();
-                return;
-            }
-            putLeaf(-1 - index);
+            return index < 0 ? NONE : -1 - index;
         }
 
         private void readNot() {
@@ -1204,12 +1202,6 @@ public final class RidgeClaps {
                 return;
             }
             openBrackets--;
-            moveOn();
-        }
-
-        private void putLeaf(int code) {
-            leaves++;
-            putCode(code);
             moveOn();
         }
 

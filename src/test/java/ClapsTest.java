@@ -70,6 +70,13 @@ public final class ClapsTest {
         RidgeClaps away = sheetOf(1, 0, NONE, 54);
         due.is("19 away", away.claps(2, 2), -9);
         due.is("19 away", away.claps(2, 3), 0);
+        for (int pace = -9; pace <= 9; pace++) {
+            RidgeClaps each = sheetOf(0, 150, 150 - 3 * pace, 150 - 6 * pace);
+            due.is("19 pace", each.claps(2, 2), pace);
+            due.is("19 pace", each.claps(2, 3), 0);
+            each.hear(2);
+            due.is("20 pace", each.count(4), pace);
+        }
         // 30, 39: PACE -3; with 40 on place 2 as well: |39 - 33| + |40 - 36| = 10, |39 - 36| + |40 - 42| = 5.
         RidgeClaps mixed = sheetOf(0, 30, 39, 40);
         due.is("19 mixed", mixed.claps(2, 2), -2);

@@ -9,6 +9,7 @@ public final class ImagesTest {
         checkRefused();
         checkRows();
         checkByImage();
+        checkByTexts();
         keepAndBack();
         notInTheImage();
         backAgain();
@@ -115,10 +116,27 @@ public final class ImagesTest {
         x.seed(3);
         x.turns(3, 3);
         Due.text(x, "risk 9");
+        x.safest(9);
         tellAll(x, row, 12);
         due.is("36 by the image, not as it is", x.check(6), 0);
         due.is("36 state stays", x.count(1), 1);
         due.is("36 state stays", x.count(3), 90);
+        RidgeClaps hollow = new RidgeClaps();
+        for (int height : new int[] {39, 2, 39}) {
+            hollow.place(0, height);
+        }
+        Due.text(hollow, "risk h");
+        Due.text(hollow, "odds 100");
+        hollow.seed(9);
+        hollow.come(1);
+        hollow.keep();
+        int[] stays = minutesTold(hollow, 3);
+        due.is("36 stays", stays[4], 600);
+        hollow.set(1, 1, 99);
+        hollow.set(2, 1, 0);
+        hollow.safest(9);
+        tellAll(hollow, stays, 6);
+        due.is("36 by the RISKS of the image", hollow.check(3), 0);
         RidgeClaps late = new RidgeClaps();
         for (int i = 0; i < 166; i++) {
             late.run(60);
@@ -131,6 +149,20 @@ public final class ImagesTest {
         due.is("36 two minutes are left", late.check(3), 5);
         tellAll(late, new int[2], 2);
         due.is("36 one of them", late.check(1), 0);
+    }
+
+    private static void checkByTexts() {
+        RidgeClaps x = storm();
+        Due.text(x, "risk h/2+n");
+        Due.text(x, "odds 90-d-m");
+        x.keep();
+        int[] row = minutesTold(x, 9);
+        due.holds("36 the row is worth checking", row[16] > 0);
+        Due.text(x, "risk 5");
+        Due.text(x, "odds 0");
+        tellAll(x, row, 18);
+        due.is("36 by the texts of the image", x.check(9), 0);
+        due.is("36 the texts stay", x.sky(0, 1), 0);
     }
 
     private static void keepAndBack() {

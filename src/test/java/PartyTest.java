@@ -11,7 +11,9 @@ public final class PartyTest {
         stepStruck();
         lastMinute();
         run();
+        runLooksTwentyAhead();
         treeSmall();
+        treeOfMany();
         treeRefused();
         ruleOf();
         hide();
@@ -192,6 +194,17 @@ public final class PartyTest {
         due.is("14 run", stepsAndRunAgree(y) ? 1 : 0, 1);
     }
 
+    /** To stay 20 minutes at RISK 2 is 40; to leave by an end of RISK 39 is 41, by one of 37 it is 39. */
+    private static void runLooksTwentyAhead() {
+        for (int end : new int[] {39, 37}) {
+            RidgeClaps x = flat(end, 2, end);
+            Due.text(x, "risk h");
+            x.come(1);
+            x.run(1);
+            due.is("14 behind a minute with " + end, x.count(1), end == 39 ? 1 : 2);
+        }
+    }
+
     /** run must go as TREE of 20 minutes tells minute by minute. */
     private static boolean stepsAndRunAgree(RidgeClaps y) {
         y.come(2);
@@ -243,12 +256,36 @@ public final class PartyTest {
         RidgeClaps zero = flat(9, 9, 9);
         due.is("15 no danger", zero.tree(1, 60, 0), 0);
         due.is("15 no danger: the least step", zero.tree(1, 60, 1), 0);
+        due.is("15 no danger: the least step", zero.tree(2, 60, 1), 0);
         // Going later costs less: the storm goes.
         RidgeClaps goes = flat(50, 90, 0, 90, 50);
         goes.storm(1, -9);
         due.is("15 waits", goes.tree(2, 10, 0), 0);
         due.is("15 by minutes", goes.tree(1, 2, 0), 9 * 100);
         due.is("15 minutes tell", goes.tree(0, 1, 0), 500);
+    }
+
+    private static void treeOfMany() {
+        RidgeClaps x = new RidgeClaps();
+        for (int i = 0; i < 24; i++) {
+            x.place(0, i == 12 ? 20 : 99);
+        }
+        x.storm(0, 0);
+        x.storm(1, 0);
+        due.is("15 from the last of 24", x.tree(23, 60, 0), 900);
+        due.is("15 from the one ahead of it", x.tree(22, 60, 0), 1800);
+        due.is("15 stays in the middle", x.tree(12, 45, 0), 200 * 45);
+        due.is("15 stays in the middle", x.tree(12, 45, 1), 2);
+        due.is("15 on to the middle", x.tree(11, 45, 0), 900 + 200 * 44);
+        due.is("15 on to the middle", x.tree(11, 45, 1), 0);
+        due.is("15 back to the middle", x.tree(13, 45, 1), 1);
+        due.is("18 of 24", x.safest(60), 0);
+        due.is("18 of 24", x.safest(4), 12);
+        due.is("16 to the last of 24", x.rule(12, 60, 0), 200 + 12 * 900);
+        x.storm(0, 20);
+        due.is("16 to the last of 24", x.rule(12, 60, 0), 40 * (2 + 11 * 9));
+        due.is("17 of 24", x.hide(23, 10), 13);
+        due.is("17 of 24", x.hide(23, 11), 12);
     }
 
     private static void treeRefused() {
@@ -283,6 +320,8 @@ public final class PartyTest {
         due.is("16 what is not 0 is back", x.rule(1, 60, 0), 40 * (2 + 3));
         Due.text(x, "turn f<20");
         due.is("16 by f", x.rule(1, 60, 0), 40 * (2 + 9 + 1));
+        Due.text(x, "turn 0");
+        due.is("16 never back", x.rule(0, 60, 0), 40 * (3 + 2 + 9 + 1));
         Due.text(x, "turn 10-f*1");
         due.is("16 below 0 is back, too", x.rule(1, 60, 0), 40 * (2 + 3));
     }
@@ -293,6 +332,9 @@ public final class PartyTest {
         for (int[] h : hides) {
             due.is("17 hide(" + h[0] + ", " + h[1] + ")", x.hide(h[0], h[1]), h[2]);
         }
+        x.set(6, 1, 0);
+        due.is("17 the last place", x.hide(2, 60), 6);
+        x.set(6, 1, 20);
         x.turns(5, 1);
         due.is("17 of several the least", x.hide(4, 60), 3);
         due.is("17 of several the least", x.hide(5, 2), 3);

@@ -95,7 +95,9 @@ public final class TextsTest {
             {"risk h\tn", 6}, {"risk\th", 4}, {"risk h,", 6}, {"risk h(n)", 6}, {"risk (h)(n)", 8}, {"risk (h)n", 8},
             {"risk (h)5", 8}, {"risk |h", 5}, {"risk &h", 5}, {"risk <h", 5}, {"risk *h", 5}, {"risk /h", 5},
             {"risk !)h", 6}, {"risk (h<n<h)", 9}, {"risk h\0", 6}, {"\0", 0}, {"risk 12345h", 5}, {"risk h=1|h=2=3", 12},
-            {"risk h : n", 7}, {"risk:h", 4}, {"risk12345", 4}, {"turnf", 0}, {"risk h-", 7}, {"risk h - - n", 9}};
+            {"xisk h", 0}, {"rusk h", 0}, {"rish h", 0}, {"riska h", 0}, {"riskz h", 0},
+            {"risk ha", 5}, {"risk hz", 5}, {"risk a", 5}, {"risk z", 5}, {"risk`h", 4}, {"risk{h", 4}, {"risk h`", 6},
+            {"risk 5/", 7}, {"risk 5:", 6}, {"risk h : n", 7}, {"risk:h", 4}, {"risk12345", 4}, {"turnf", 0}, {"risk h-", 7}, {"risk h - - n", 9}};
         for (Object[] w : wrong) {
             fault((String) w[0], (Integer) w[1]);
         }
@@ -118,6 +120,11 @@ public final class TextsTest {
         fault("risk (!!!!!!!!h)+(!!!!!!!!h)", NONE);
         fault("risk ((((((((h", 14);
         fault("risk !!!!!!!!", 13);
+        RidgeClaps x = new RidgeClaps();
+        for (int i = 0; i < 9; i++) {
+            due.is("23 left open", Due.text(x, "risk !(!(!(h"), -112);
+        }
+        due.is("23 nothing is open from the last one", Due.text(x, "risk !(!(!(!(!(!(!(!(h))))))))"), 0);
     }
 
     private static void value(String e, int want) {
@@ -159,6 +166,13 @@ public final class TextsTest {
         value("5&0", 0);
         value("0|7", 1);
         value("0|0", 0);
+        value("1&1", 1);
+        value("1&0", 0);
+        value("0&1", 0);
+        value("1|1", 1);
+        value("1|0", 1);
+        value("0|1", 1);
+        value("0", 0);
         value("1|1&0", 1);
         value("(1|1)&0", 0);
         value("0&0|1", 1);
