@@ -439,6 +439,10 @@ public final class EdgesRidgeTermsTest {
         edges.is("two minutes, stay", x.tree(2, 2, 0), 200);
         edges.is("fourteen minutes, stay", x.tree(2, 14, 0), 1400);
         edges.is("fifteen minutes, by the end or not", x.tree(2, 15, 0), 1400);
+        edges.is("by ON alone", States.risks(9, 9, 9, 1, 9, 9).tree(2, 3, 0), 900 + 2 * 100);
+        edges.is("by BACK alone", States.risks(9, 9, 1, 9, 9, 9).tree(3, 3, 0), 900 + 2 * 100);
+        edges.is("by BACK twice", States.risks(9, 9, 0, 8, 9, 9, 9).tree(4, 4, 0), 900 + 800);
+        edges.is("by ON twice", States.risks(9, 9, 9, 8, 0, 9, 9).tree(2, 4, 0), 900 + 800);
         edges.is("a step that may not be", States.flat(90, 50, 90).tree(1, 9, 0), 1400);
         RidgeClaps down = States.flat(90, 50, 90);
         down.set(1, 2, 1);
@@ -478,6 +482,10 @@ public final class EdgesRidgeTermsTest {
         edges.is("BACK and STAY", step(2, 0, 9, 1, 1, 9), 1);
         edges.is("BACK and OFF", step(0, 1, 1, 9, 9), 1);
         edges.is("STAY and OFF", step(1, 1, 9, 0, 9), 2);
+        edges.is("ON to nowhere and STAY without danger", step(2, 0, 9, 9, 0), 0);
+        edges.is("BACK to nowhere and STAY without danger", step(0, 0, 0, 9, 9), 1);
+        edges.is("BACK without danger and OFF", step(2, 1, 9, 0, 9, 9), 1);
+        edges.is("ON without danger and OFF", step(1, 1, 9, 9, 0, 9), 0);
         edges.is("all four", step(1, 1, 0, 0, 0), 0);
         edges.is("the only place, ON and BACK", step(0, 0, 9), 0);
         edges.is("by 1", step(1, 0, 3, 9, 2), 0);

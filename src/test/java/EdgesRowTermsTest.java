@@ -76,6 +76,8 @@ public final class EdgesRowTermsTest {
         edges.is("faster than -9: the rest is left", floats(150, 150 + 3 * 10).claps(0, 3), 3);
         edges.is("f is cut", floats(152, 150, 150, 150).claps(0, 3), 2);
         edges.is("f is cut: PACE", floats(152, 150, 150, 150).claps(0, 2), 0);
+        edges.is("f is cut towards 0", floats(-1, 27).claps(0, 3), 1);
+        edges.is("f is cut towards 0: PACE", floats(-2, 12).claps(0, 2), -4);
         edges.ofTerms(3, "the differences (signs left out) of each of them (the first, too), on place k, the first one being on place j, and 3 times (f less PACE times (k less j), held within 0 .. 99), together;");
         edges.is("the first, too", floats(31).claps(0, 3), 1);
         edges.is("above and below are not taken up", floats(60, 62, 58).claps(0, 3), 4);
@@ -238,6 +240,13 @@ public final class EdgesRowTermsTest {
             x.keep();
             return x;
         });
+        RidgeClaps crowd = crowd();
+        crowd.back();
+        edges.is("the KIND of place 23", crowd.told(23, 0), 5);
+        edges.is("the HEIGHT of place 23", crowd.told(23, 1), 77);
+        edges.is("DOWN of place 23", crowd.told(23, 2), 1);
+        edges.is("the 14th text counts behind it", crowd.sky(0, 1), 7);
+        edges.is("the 14th text counts in the minutes told", toldNow(crowd(), 27 * 7, 0), 0);
         edges.same("again and again", () -> {
             RidgeClaps x = States.rich();
             for (int i = 0; i < 3; i++) {
@@ -268,6 +277,25 @@ public final class EdgesRowTermsTest {
             x.back();
             return x;
         });
+    }
+
+    /** 24 PLACES and 14 TEXTS in the image, THE PARTY at PLACE 23 there, which is otherwise by now. */
+    private static RidgeClaps crowd() {
+        RidgeClaps x = States.flat(new int[23]);
+        x.place(5, 77);
+        x.set(23, 2, 1);
+        for (int i = 0; i < 13; i++) {
+            Due.text(x, "turn " + i);
+        }
+        Due.text(x, "odds 7");
+        x.seed(unstruck());
+        x.come(23);
+        x.keep();
+        x.come(NONE);
+        x.turns(23, 1);
+        x.set(23, 1, 3);
+        x.set(23, 2, 0);
+        return x;
     }
 
     private static void minutesTold() {

@@ -78,7 +78,8 @@ public final class EdgesTextTermsTest {
             Due.text(x, KEYS[key] + " 5");
             edges.is("key of " + KEYS[key], x.textTold(0, 0), key);
         }
-        for (String word : new String[] {"ris", "riskk", "rsik", "rick", "odd", "oddss", "ods", "tur", "turns", "trun", "h", "x", "riskodds", "Risk", "RISK", "rIsk", "5", "(", "!"}) {
+        for (String word : new String[] {"ris", "riskk", "rsik", "rick", "odd", "oddss", "ods", "tur", "turns", "trun", "h", "x", "riskodds", "Risk", "RISK", "rIsk", "5", "(", "!",
+            "xisk", "rxsk", "rixk", "risx", "xdds", "oxds", "odxs", "oddx", "xurn", "txrn", "tuxn", "turx"}) {
             fault(word + " 5", 0);
         }
         fault("risk risk 5", 5);

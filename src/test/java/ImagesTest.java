@@ -95,10 +95,12 @@ public final class ImagesTest {
         tellAll(x, row, 60);
         due.is("36 many too many", x.check(7), 15);
         for (int wrong = 0; wrong < 20; wrong++) {
+            RidgeClaps y = storm();
+            y.keep();
             int[] other = row.clone();
             other[wrong]++;
-            tellAll(x, other, 20);
-            due.is("36 number " + wrong + " is not", x.check(10), 1 + wrong);
+            tellAll(y, other, 20);
+            due.is("36 number " + wrong + " is not", y.check(10), 1 + wrong);
         }
         due.is("36 check changes no state", x.count(2), 0);
         due.is("36 check changes no z", x.count(10), storm().count(10));
@@ -208,24 +210,30 @@ public final class ImagesTest {
     }
 
     private static void backAgain() {
-        RidgeClaps x = storm();
-        x.keep();
-        int[] told = all(x);
-        for (int i = 0; i < 3; i++) {
-            x.run(5 + i);
-            x.turns(2, i);
-            x.set(4, 1, i);
-            Due.text(x, "odds " + (60 + i));
-            due.is("38 texts go on from the image", x.count(7), 1);
-            x.back();
-            same("38 back again", all(x), told);
+        int[] told = all(storm());
+        for (int times = 1; times <= 3; times++) {
+            RidgeClaps x = storm();
+            x.keep();
+            for (int i = 0; i < times; i++) {
+                x.run(5 + i);
+                x.turns(2, i);
+                x.set(4, 1, i);
+                Due.text(x, "odds " + (60 + i));
+                due.is("38 texts go on from the image", x.count(7), 1);
+                x.back();
+            }
+            same("38 back " + times + " times", all(x), told);
         }
-        x.run(5);
-        x.keep();
-        int[] later = all(x);
-        x.run(5);
-        x.back();
-        same("37 the last image", all(x), later);
+        RidgeClaps later = storm();
+        later.keep();
+        later.run(5);
+        RidgeClaps last = storm();
+        last.keep();
+        last.run(5);
+        last.keep();
+        last.run(5);
+        last.back();
+        same("37 the last image", all(last), all(later));
     }
 
     private static int[] all(RidgeClaps x) {

@@ -37,7 +37,11 @@ public final class ModelTest {
         throw new IllegalArgumentException(name);
     }
 
-    private int ask(String name, int... a) throws Exception {
+    /** An object is good for 512 calls: what would come behind them is left out. */
+    private void ask(String name, int... a) throws Exception {
+        if (calls >= CALLS) {
+            return;
+        }
         Object[] boxed = new Object[a.length];
         for (int i = 0; i < a.length; i++) {
             boxed[i] = a[i];
@@ -46,7 +50,6 @@ public final class ModelTest {
         int got = (Integer) method(name).invoke(x, boxed);
         due.is("run " + run + ", call " + calls + ": " + name + java.util.Arrays.toString(a), got, want);
         calls++;
-        return want;
     }
 
     private int num(int least, int most) {
