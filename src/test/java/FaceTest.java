@@ -4,6 +4,7 @@ import java.lang.reflect.Method;
 import java.lang.reflect.Modifier;
 import java.nio.file.Files;
 import java.nio.file.Path;
+import java.util.ArrayList;
 import java.util.List;
 import java.util.TreeSet;
 
@@ -25,8 +26,36 @@ public final class FaceTest {
             inside(c);
         }
         due.holds("at most twelve classes", RidgeClaps.class.getDeclaredClasses().length < 12);
-        source(Files.readString(Path.of("src/main/java/RidgeClaps.java")));
+        String text = Files.readString(Path.of("src/main/java/RidgeClaps.java"));
+        source(text);
+        Document document = new Document();
+        if (document.isThere()) {
+            asTheDocument(document, text.split("\n"));
+        }
         due.end();
+    }
+
+    /** The public members and the headings ahead of them, word by word and in the document's order. */
+    private static void asTheDocument(Document document, String[] lines) {
+        List<String> members = new ArrayList<>();
+        List<List<String>> headings = new ArrayList<>();
+        for (String line : lines) {
+            if (line.startsWith("    public ")) {
+                members.add(line.trim().replaceFirst(" \\{$", ";"));
+            }
+            if (line.startsWith("    // ----")) {
+                headings.add(new ArrayList<>(List.of(line.trim().substring(3))));
+            } else if (line.startsWith("    public int ") && !headings.isEmpty()) {
+                headings.get(headings.size() - 1).add(line.replaceFirst("^    public int (\\w+)\\(.*", "$1"));
+            }
+        }
+        List<String> face = document.face();
+        due.is("members of the face", members.size(), face.size());
+        for (int i = 0; i < face.size() && i < members.size(); i++) {
+            due.holds("the document's " + face.get(i) + ", here " + members.get(i), face.get(i).equals(members.get(i)));
+        }
+        due.is("constants, constructor, methods in the document", face.size(), 2 + METHODS.length);
+        due.holds("the headings of the document " + document.headings() + ", here " + headings, headings.equals(document.headings()));
     }
 
     private static void constants() throws Exception {
