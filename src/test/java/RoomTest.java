@@ -52,7 +52,9 @@ public final class RoomTest {
     }
 
     private static void rows() {
-        nothing("claps", States.RICH, x -> x.claps(1, 3));
+        nothing("claps, how far", States.RICH, x -> x.claps(1, 0));
+        nothing("claps, comes", States.RICH, x -> x.claps(1, 1));
+        nothing("claps, the differences", States.RICH, x -> x.claps(1, 3));
         nothing("hear", States.RICH, x -> x.hear(1));
         nothing("sheet", States.RICH, x -> x.sheet(3, 1, 24));
         nothing("mark", States.RICH, x -> x.mark(1, 1, 7));
